@@ -151,6 +151,11 @@ public final class PromisesTest {
         itemIs("4: depth runs", x, 2, 4, 5, 4, RUNS, 0, 0);
         itemIs("4: both run", x, 3, 4, 6, RUNS, RUNS, 0, 0);
         sizes("4: what runs does not count", x, 0, 11, 4, MAX);
+        x.open(false);
+        x.rule(1, 50, 60, 6);
+        x.rule(1, 2, 3, 0);
+        x.close(0, 0, 0, 1);
+        sizes("4: height and depth that run do not count", x, 1, 2, 2, 3);
         BoxDesk y = opened(true);
         y.rule(50, 1, 2, 1);
         y.rule(7, 3, 4, 0);
