@@ -15,6 +15,14 @@ final class Checks {
         }
     }
 
+    void sameText(String what, String got, String due) {
+        made++;
+        if (!got.equals(due)) {
+            wrong++;
+            System.out.println(what + " answered " + got + ", due is " + due);
+        }
+    }
+
     void yes(String what, boolean got) {
         same(what, got ? 1 : 0, 1);
     }

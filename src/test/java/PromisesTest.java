@@ -39,35 +39,35 @@ public final class PromisesTest {
         CHECKS.end();
     }
 
-    private static BoxDesk opened(boolean vertical) {
-        BoxDesk x = new BoxDesk();
+    private static Desk opened(boolean vertical) {
+        Desk x = new Desk();
         x.open(vertical);
         return x;
     }
 
     /** A desk with an hbox of one character in register 0, and an open list. */
-    private static BoxDesk withHbox(int width, int height, int depth, boolean vertical) {
-        BoxDesk x = opened(false);
+    private static Desk withHbox(int width, int height, int depth, boolean vertical) {
+        Desk x = opened(false);
         x.character(width, height, depth);
         x.close(0, 0, 0, 0);
         x.open(vertical);
         return x;
     }
 
-    private static void sizes(String what, BoxDesk x, int k, int... due) {
+    private static void sizes(String what, Desk x, int k, int... due) {
         for (int i = 0; i < due.length; i++) {
             CHECKS.same(what + ": size " + (i + 1), x.about(k, i + 1), due[i]);
         }
     }
 
-    private static void widths(String what, BoxDesk x, int k, int... due) {
+    private static void widths(String what, Desk x, int k, int... due) {
         CHECKS.same(what + ": items", x.about(k, 4), due.length);
         for (int i = 0; i < due.length; i++) {
             CHECKS.same(what + ": width of item " + i, x.item(k, i, 1), due[i]);
         }
     }
 
-    private static void itemIs(String what, BoxDesk x, int i, int... due) {
+    private static void itemIs(String what, Desk x, int i, int... due) {
         for (int w = 0; w < 6; w++) {
             CHECKS.same(what + ": item(0, " + i + ", " + w + ")", x.item(0, i, w), due[w]);
         }
@@ -76,7 +76,7 @@ public final class PromisesTest {
     }
 
     private static void promise1NewObject() {
-        BoxDesk x = new BoxDesk();
+        Desk x = new Desk();
         CHECKS.same("1: lists", x.count(0), 0);
         CHECKS.same("1: items", x.count(1), 0);
         CHECKS.same("1: NONE", BoxDesk.NONE, -1);
@@ -85,13 +85,13 @@ public final class PromisesTest {
                 CHECKS.same("1: about " + k + " " + what, x.about(k, what), 0);
             }
         }
-        BoxDesk other = opened(false);
+        Desk other = opened(false);
         other.kern(1);
         CHECKS.same("1: objects are apart", x.count(1), 0);
     }
 
     private static void promise2Open() {
-        BoxDesk x = new BoxDesk();
+        Desk x = new Desk();
         for (int i = 0; i < 100; i++) {
             CHECKS.yes("2: open " + i, x.open(i % 2 == 0));
             CHECKS.same("2: lists", x.count(0), i + 1);
@@ -107,7 +107,7 @@ public final class PromisesTest {
     }
 
     private static void promise3Character() {
-        BoxDesk x = new BoxDesk();
+        Desk x = new Desk();
         CHECKS.no("3: no list", x.character(1, 1, 1));
         x.open(true);
         CHECKS.no("3: vertical", x.character(1, 1, 1));
@@ -127,14 +127,14 @@ public final class PromisesTest {
     }
 
     private static void promise4Rule() {
-        CHECKS.no("4: no list", new BoxDesk().rule(1, 1, 1, 0));
+        CHECKS.no("4: no list", new Desk().rule(1, 1, 1, 0));
         for (int running = -2; running < 18; running++) {
             boolean across = running == 0 || running == 2 || running == 4 || running == 6;
             boolean down = running == 0 || running == 1;
             CHECKS.same("4: h " + running, opened(false).rule(1, 2, 3, running) ? 1 : 0, across ? 1 : 0);
             CHECKS.same("4: v " + running, opened(true).rule(1, 2, 3, running) ? 1 : 0, down ? 1 : 0);
         }
-        BoxDesk x = opened(false);
+        Desk x = opened(false);
         CHECKS.no("4: a bit far off", x.rule(1, 1, 1, Integer.MIN_VALUE));
         CHECKS.no("4: running, but no SIZE", x.rule(0, OVER, 0, 2));
         CHECKS.no("4: running, but no SIZE", x.rule(0, 0, -OVER, 4));
@@ -156,7 +156,7 @@ public final class PromisesTest {
         x.rule(1, 2, 3, 0);
         x.close(0, 0, 0, 1);
         sizes("4: height and depth that run do not count", x, 1, 2, 2, 3);
-        BoxDesk y = opened(true);
+        Desk y = opened(true);
         y.rule(50, 1, 2, 1);
         y.rule(7, 3, 4, 0);
         y.close(0, 0, MAX, 0);
@@ -165,9 +165,9 @@ public final class PromisesTest {
     }
 
     private static void promise5Glue() {
-        CHECKS.no("5: no list", new BoxDesk().glue(1, 1, 1, 1));
+        CHECKS.no("5: no list", new Desk().glue(1, 1, 1, 1));
         for (int kind = 0; kind < 2; kind++) {
-            BoxDesk x = opened(kind == 1);
+            Desk x = opened(kind == 1);
             int[] bad = {OVER, -OVER, Integer.MAX_VALUE, Integer.MIN_VALUE};
             for (int b : bad) {
                 CHECKS.no("5: width " + b, x.glue(b, 0, 0, 0));
@@ -189,9 +189,9 @@ public final class PromisesTest {
     }
 
     private static void promise6Kern() {
-        CHECKS.no("6: no list", new BoxDesk().kern(1));
+        CHECKS.no("6: no list", new Desk().kern(1));
         for (int kind = 0; kind < 2; kind++) {
-            BoxDesk x = opened(kind == 1);
+            Desk x = opened(kind == 1);
             CHECKS.no("6: over", x.kern(OVER));
             CHECKS.no("6: under", x.kern(-OVER));
             CHECKS.no("6: far under", x.kern(Integer.MIN_VALUE));
@@ -205,9 +205,9 @@ public final class PromisesTest {
     }
 
     private static void promise7Penalty() {
-        CHECKS.no("7: no list", new BoxDesk().penalty(1));
+        CHECKS.no("7: no list", new Desk().penalty(1));
         for (int kind = 0; kind < 2; kind++) {
-            BoxDesk x = opened(kind == 1);
+            Desk x = opened(kind == 1);
             CHECKS.yes("7: least", x.penalty(Integer.MIN_VALUE));
             CHECKS.yes("7: greatest", x.penalty(Integer.MAX_VALUE));
             CHECKS.yes("7: plain", x.penalty(-5));
@@ -219,7 +219,7 @@ public final class PromisesTest {
     }
 
     private static void promise8CloseAnHbox() {
-        BoxDesk x = withHbox(10, 20, 30, false);
+        Desk x = withHbox(10, 20, 30, false);
         x.character(1, 4, 3);
         x.rule(2, 6, 2, 0);
         x.glue(4, 1, 0, 1);
@@ -248,7 +248,7 @@ public final class PromisesTest {
     }
 
     private static void promise8CloseAVbox() {
-        BoxDesk x = withHbox(10, 20, 30, true);
+        Desk x = withHbox(10, 20, 30, true);
         x.rule(12, 1, 2, 0);
         x.put(0, 5, true);
         x.glue(100, 0, 0, 0);
@@ -271,7 +271,7 @@ public final class PromisesTest {
     }
 
     private static void lastIsNoBox(String what, int last) {
-        BoxDesk x = opened(true);
+        Desk x = opened(true);
         x.rule(1, 2, 3, 0);
         if (last == 1) {
             x.glue(10, 0, 0, 0);
@@ -288,12 +288,12 @@ public final class PromisesTest {
     private static void promise8CloseWithALimit() {
         int[][] limitHeightDepth = {{6, 7, 5}, {5, 7, 5}, {4, 8, 4}, {0, 12, 0}, {-2, 14, -2}};
         for (int[] row : limitHeightDepth) {
-            BoxDesk x = opened(true);
+            Desk x = opened(true);
             x.rule(1, 7, 5, 0);
             CHECKS.same("8: limit " + row[0], x.close(0, 0, row[0], 0), row[1]);
             sizes("8: limit " + row[0], x, 0, 1, row[1], row[2]);
         }
-        BoxDesk x = opened(true);
+        Desk x = opened(true);
         CHECKS.same("8: 0 is more than a limit below 0", x.close(0, 0, -4, 0), 4);
         sizes("8: 0 is more than a limit below 0", x, 0, 0, 4, -4);
         x.open(true);
@@ -308,7 +308,7 @@ public final class PromisesTest {
     }
 
     private static void promise8CloseRefuses() {
-        BoxDesk x = new BoxDesk();
+        Desk x = new Desk();
         CHECKS.refused("8: no list", NO_STATE, () -> x.close(0, 0, 0, 0));
         CHECKS.refused("8: no list comes first", NO_STATE, () -> x.close(9, OVER, OVER, 99));
         x.open(false);
@@ -333,7 +333,7 @@ public final class PromisesTest {
         CHECKS.same("8: sums on the way may be no SIZE", x.close(0, 0, 0, 0), MAX);
     }
 
-    private static void cantBeMade(String what, BoxDesk x, int spec, int amount, int limit) {
+    private static void cantBeMade(String what, Desk x, int spec, int amount, int limit) {
         int lists = x.count(0);
         int items = x.count(1);
         CHECKS.refused("8: " + what, NO_BOX, () -> x.close(spec, amount, limit, 3));
@@ -343,30 +343,30 @@ public final class PromisesTest {
 
     private static void promise8CloseKeepsSizes() {
         for (int order = 0; order < 4; order++) {
-            BoxDesk x = opened(order % 2 == 0);
+            Desk x = opened(order % 2 == 0);
             x.glue(0, MAX, order, 0);
             x.glue(0, MAX, (order + 1) % 4, 0);
             x.glue(0, 1, order, 0);
             cantBeMade("stretches of order " + order, x, 0, 0, 0);
         }
-        BoxDesk x = opened(false);
+        Desk x = opened(false);
         x.glue(0, 0, 1, MAX);
         x.glue(0, 0, 2, 1);
         cantBeMade("all shrinks", x, 0, 0, 0);
-        BoxDesk y = opened(false);
+        Desk y = opened(false);
         y.kern(MAX);
         cantBeMade("its own width", y, 1, 1, 0);
         CHECKS.same("8: the edge", y.close(1, 0, 0, 0), MAX);
-        BoxDesk z = withHbox(1, 1, 0, false);
+        Desk z = withHbox(1, 1, 0, false);
         z.put(0, -MAX, true);
         cantBeMade("its own height", z, 0, 0, 0);
-        BoxDesk d = withHbox(1, 0, 1, false);
+        Desk d = withHbox(1, 0, 1, false);
         d.put(0, MAX, true);
         cantBeMade("its own depth", d, 0, 0, 0);
-        BoxDesk w = withHbox(1, 0, 0, true);
+        Desk w = withHbox(1, 0, 0, true);
         w.put(0, MAX, true);
         cantBeMade("the vbox's own width", w, 0, 0, 0);
-        BoxDesk v = opened(true);
+        Desk v = opened(true);
         v.rule(0, MAX, 1, 0);
         CHECKS.same("8: the last depth is no part of the height", v.close(0, 0, MAX, 0), MAX);
         v.open(true);
@@ -374,14 +374,14 @@ public final class PromisesTest {
         cantBeMade("the rest over the limit", v, 0, 0, 0);
         v.penalty(0);
         cantBeMade("heights and depths", v, 2, 0, MAX);
-        BoxDesk u = opened(true);
+        Desk u = opened(true);
         u.kern(-MAX);
         u.kern(-1);
         cantBeMade("too far below 0", u, 2, 0, 0);
     }
 
     private static void promise8GlueIsSet() {
-        BoxDesk x = opened(false);
+        Desk x = opened(false);
         x.glue(10, 1, 0, 1);
         x.kern(5);
         x.glue(10, 1, 0, 1);
@@ -396,7 +396,7 @@ public final class PromisesTest {
         widths("8: no excess", x, 0, 10, 5, 10, 10);
         reset(x, 1, 1);
         widths("8: 1 among 3", x, 0, 10, 5, 11, 10);
-        BoxDesk y = opened(true);
+        Desk y = opened(true);
         y.glue(1, 5, 0, 1);
         y.glue(2, 3, 2, 0);
         y.glue(3, 0, 3, 4);
@@ -408,7 +408,7 @@ public final class PromisesTest {
         y.unbox(0);
         y.close(2, 10, 0, 0);
         widths("8: shrinks are of one kind", y, 0, 0, 2, 1, 4, 3);
-        BoxDesk z = opened(false);
+        Desk z = opened(false);
         z.glue(6, 0, 3, 0);
         z.close(2, 50, 0, 0);
         widths("8: no stretch", z, 0, 6);
@@ -416,20 +416,20 @@ public final class PromisesTest {
         widths("8: no shrink", z, 0, 6);
     }
 
-    private static void reset(BoxDesk x, int spec, int amount) {
+    private static void reset(Desk x, int spec, int amount) {
         x.open(false);
         x.unbox(0);
         x.close(spec, amount, 0, 0);
     }
 
     private static void promise8GlueAtTheEdges() {
-        BoxDesk x = opened(false);
+        Desk x = opened(false);
         x.kern(-MAX);
         x.kern(-MAX);
         x.glue(MAX, 1, 0, 0);
         x.close(2, MAX, 0, 0);
         widths("8: at most 2147483647", x, 0, -MAX, -MAX, Integer.MAX_VALUE);
-        BoxDesk y = opened(false);
+        Desk y = opened(false);
         y.glue(-MAX, 0, 0, MAX);
         y.close(1, 0, 0, 0);
         y.open(false);
@@ -437,7 +437,7 @@ public final class PromisesTest {
         y.kern(MAX);
         y.close(2, -MAX, 0, 0);
         widths("8: far below 0", y, 0, -2 * MAX, MAX);
-        BoxDesk z = opened(false);
+        Desk z = opened(false);
         z.kern(-MAX);
         z.glue(0, MAX - 1, 3, 0);
         z.glue(0, 1, 3, 0);
@@ -446,7 +446,7 @@ public final class PromisesTest {
     }
 
     private static void promise8BoxesInOneAnother() {
-        BoxDesk x = opened(false);
+        Desk x = opened(false);
         x.close(0, 0, 0, 0);
         for (int boxes = 1; boxes < 100; boxes++) {
             x.open(boxes % 2 == 0);
@@ -465,8 +465,8 @@ public final class PromisesTest {
     }
 
     private static void promise9Put() {
-        CHECKS.no("9: no list", new BoxDesk().put(0, 0, false));
-        BoxDesk y = withHbox(3, 4, 5, false);
+        CHECKS.no("9: no list", new Desk().put(0, 0, false));
+        Desk y = withHbox(3, 4, 5, false);
         int[] noRegister = {-1, 16, Integer.MAX_VALUE, Integer.MIN_VALUE};
         for (int k : noRegister) {
             CHECKS.no("9: register " + k, y.put(k, 0, false));
@@ -499,8 +499,8 @@ public final class PromisesTest {
     }
 
     /** Register 0 has a box of 99 kerns, so that each copy makes 100 items. */
-    private static BoxDesk withHundred() {
-        BoxDesk x = opened(false);
+    private static Desk withHundred() {
+        Desk x = opened(false);
         for (int i = 0; i < 99; i++) {
             x.kern(0);
         }
@@ -509,7 +509,7 @@ public final class PromisesTest {
     }
 
     private static void promise9PutAtTheLimit() {
-        BoxDesk x = withHundred();
+        Desk x = withHundred();
         x.open(false);
         for (int i = 0; i < 39; i++) {
             CHECKS.yes("9: copy " + i, x.put(0, 0, true));
@@ -518,7 +518,7 @@ public final class PromisesTest {
         CHECKS.no("9: no copy more", x.put(0, 0, true));
         CHECKS.yes("9: but the box itself", x.put(0, 0, false));
         CHECKS.same("9: 4000 still", x.count(1), 4000);
-        BoxDesk y = withHundred();
+        Desk y = withHundred();
         y.open(false);
         for (int i = 0; i < 38; i++) {
             y.put(0, 0, true);
@@ -529,8 +529,8 @@ public final class PromisesTest {
     }
 
     private static void promise10Unbox() {
-        CHECKS.no("10: no list", new BoxDesk().unbox(0));
-        BoxDesk x = opened(false);
+        CHECKS.no("10: no list", new Desk().unbox(0));
+        Desk x = opened(false);
         x.glue(5, 2, 1, 0);
         x.character(1, 2, 3);
         x.close(2, 20, 0, 0);
@@ -565,7 +565,7 @@ public final class PromisesTest {
     }
 
     private static void promise11Size() {
-        BoxDesk x = withHbox(1, 2, 3, false);
+        Desk x = withHbox(1, 2, 3, false);
         CHECKS.yes("11: width", x.size(0, 0, MAX));
         CHECKS.yes("11: height", x.size(0, 1, -MAX));
         CHECKS.yes("11: depth", x.size(0, 2, 0));
@@ -585,7 +585,7 @@ public final class PromisesTest {
     }
 
     private static void promise12About() {
-        BoxDesk x = withHbox(1, 2, 3, true);
+        Desk x = withHbox(1, 2, 3, true);
         x.put(0, 0, true);
         x.rule(9, 8, 7, 0);
         x.close(0, 0, MAX, 1);
@@ -607,7 +607,7 @@ public final class PromisesTest {
     }
 
     private static void promise13Item() {
-        BoxDesk x = withHbox(1, 2, 3, false);
+        Desk x = withHbox(1, 2, 3, false);
         x.put(0, 4, false);
         x.penalty(9);
         x.glue(5, 6, 2, 7);
@@ -626,7 +626,7 @@ public final class PromisesTest {
     }
 
     private static void promise14Count() {
-        BoxDesk x = withHbox(1, 2, 3, true);
+        Desk x = withHbox(1, 2, 3, true);
         CHECKS.same("14: lists", x.count(0), 1);
         CHECKS.same("14: a register's box, too", x.count(1), 2);
         CHECKS.same("14: what 2", x.count(2), BoxDesk.NONE);
@@ -642,7 +642,7 @@ public final class PromisesTest {
     }
 
     private static void theFullDesk() {
-        BoxDesk x = withHundred();
+        Desk x = withHundred();
         x.open(true);
         for (int i = 0; i < 39; i++) {
             x.put(0, 0, true);
