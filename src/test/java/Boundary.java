@@ -125,7 +125,7 @@ final class Boundary {
         try {
             return Integer.toString(call.on(x));
         } catch (RuntimeException e) {
-            return "throws." + e.getClass().getSimpleName();
+            return "throws." + e.getClass().getSimpleName() + (Checks.isOwn(e) ? "" : ", but not by its own throw");
         }
     }
 

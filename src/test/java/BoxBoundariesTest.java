@@ -468,6 +468,13 @@ public final class BoxBoundariesTest {
         }
     }
 
+    private static void keptBox(Desk x) {
+        x.open(true);
+        x.kern(77);
+        x.close(0, 0, 0, 9);
+    }
+
+    /** Whatever was in register 9 is still there. */
     private static void cantBeMade(String what) {
         AT.changesNothing(what + ", spec 0", Boundary.NO_BOX, x -> x.close(0, 0, MAX, 9));
         AT.changesNothing(what + ", spec 1", Boundary.NO_BOX, x -> x.close(1, 0, MAX, 9));
@@ -475,7 +482,8 @@ public final class BoxBoundariesTest {
     }
 
     private static void sumOfWidthsOfAnHbox() {
-        AT.sentence("Promise 8", "A box can't be made, if a sum of its items' widths .. is no SIZE (the list is open still)");
+        AT.sentence("Promise 8", "A box can't be made, if a sum of its items' widths .. is no SIZE"
+                + " .. (the list is open still)");
         for (int k = 1; k < 7; k++) {
             int kind = k;
             AT.before(x -> {
@@ -486,6 +494,7 @@ public final class BoxBoundariesTest {
             AT.answers("kind " + k + ", the greatest", MAX, x -> x.close(0, 0, 0, 9));
             AT.answers("kind " + k + ", the greatest, just 3", 3, x -> x.close(2, 3, 0, 9));
             AT.before(x -> {
+                keptBox(x);
                 x.open(false);
                 add(x, kind, 1);
                 x.kern(MAX);
@@ -610,7 +619,8 @@ public final class BoxBoundariesTest {
     }
 
     private static void sumBelowZeroOfAVbox() {
-        AT.sentence("Promise 8", "A box can't be made, if a sum of its items' .. (heights, depths) .. is no SIZE (below 0)");
+        AT.sentence("Promise 8", "A box can't be made, if a sum of its items' .. (heights, depths) .. is no SIZE"
+                + " (below 0)");
         AT.before(x -> {
             x.open(true);
             x.rule(0, -MAX, 0, 0);
@@ -629,7 +639,8 @@ public final class BoxBoundariesTest {
     }
 
     private static void restOverTheLimitCounts() {
-        AT.sentence("Promise 8", "the natural height is more by the rest (and its own height is a SIZE, or it can't be made)");
+        AT.sentence("Promise 8", "the natural height is more by the rest .. A box can't be made, if"
+                + " .. a size of its own is no SIZE");
         AT.before(x -> {
             x.open(true);
             x.rule(0, MAX - 3, 10, 0);
@@ -657,6 +668,7 @@ public final class BoxBoundariesTest {
                 });
                 AT.answers("order " + o + ", the greatest", 0, x -> x.close(0, 0, 0, 9));
                 AT.before(x -> {
+                    keptBox(x);
                     x.open(vertical);
                     x.glue(0, MAX, order, 0);
                     x.kern(-1);
@@ -679,6 +691,7 @@ public final class BoxBoundariesTest {
                 });
                 AT.answers("order " + o + ", the greatest", 0, x -> x.close(0, 0, 0, 9));
                 AT.before(x -> {
+                    keptBox(x);
                     x.open(vertical);
                     x.glue(0, 0, 1, MAX);
                     x.glue(0, 0, order, 1);
@@ -709,7 +722,8 @@ public final class BoxBoundariesTest {
     }
 
     private static void ownHeightAndDepthOfAnHbox() {
-        AT.sentence("Promise 8", "A box can't be made, if .. a size of its own is no SIZE (an hbox's height and depth)");
+        AT.sentence("Promise 8", "A box can't be made, if .. a size of its own is no SIZE"
+                + " (an hbox's height and depth)");
         AT.before(x -> {
             Boundary.box(x, false, 1, 20, 30);
             x.open(false);
@@ -796,6 +810,7 @@ public final class BoxBoundariesTest {
                 Desk x = AT.answers("99 boxes", 0, d -> d.close(0, 0, 0, 9));
                 AT.sizes("99 boxes", x, 9, 0, 0, 0, 3, 101);
                 AT.before(d -> {
+                    keptBox(d);
                     Boundary.nest(d, 100);
                     d.open(vertical);
                     d.kern(0);

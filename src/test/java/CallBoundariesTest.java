@@ -555,7 +555,8 @@ public final class CallBoundariesTest {
     }
 
     private static void itemTellsZeroForOthers() {
-        AT.sentence("Promise 13", "(0 for others ..), 4 its shift, or the stretch of glue, 5 the shrink of glue; 0 for others");
+        AT.sentence("Promise 13", "(0 for others ..), 4 its shift, or the stretch of glue,"
+                + " 5 the shrink of glue; 0 for others");
         AT.before(CallBoundariesTest::oneOfEach);
         Desk x = AT.desk();
         for (int i = 0; i < EACH.length; i++) {

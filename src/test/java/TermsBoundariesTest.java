@@ -154,6 +154,10 @@ public final class TermsBoundariesTest {
                 AT.answers("spec 1, amount " + v, v, x -> x.close(1, v, 0, 0));
                 AT.answers("spec 2, amount " + v, v, x -> x.close(2, v, 0, 0));
             }
+            AT.before(x -> {
+                Boundary.box(x, false, 7, 8, 9);
+                x.open(vertical);
+            });
             for (int v : Boundary.NO_SIZES) {
                 for (int s = 0; s < 3; s++) {
                     int spec = s;
@@ -508,6 +512,11 @@ public final class TermsBoundariesTest {
             AT.answers("spec 1", 42, x -> x.close(1, 12, 0, 0));
             AT.answers("spec 1, less", 18, x -> x.close(1, -12, 0, 0));
             AT.answers("spec 2", 12, x -> x.close(2, 12, 0, 0));
+            AT.before(x -> {
+                Boundary.box(x, false, 7, 8, 9);
+                x.open(vertical);
+                x.kern(30);
+            });
             for (int spec : none) {
                 AT.changesNothing("spec " + spec, Boundary.NO_ARGUMENT, x -> x.close(spec, 12, 0, 0));
             }
